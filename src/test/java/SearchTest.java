@@ -1,0 +1,255 @@
+/** Promises 17 to 21: by hand, and by trying all through the object's own day. */
+public final class SearchTest {
+    private static final Checks CHECKS = new Checks();
+
+    public static void main(String[] args) {
+        best();
+        bestByTrying();
+        takeOff();
+        takeOffByTrying();
+        fetch();
+        fetchByTrying();
+        carried();
+        cook();
+        refused();
+        CHECKS.end("SearchTest");
+    }
+
+    private static void due(String call, long got, long want) {
+        CHECKS.due(call, got, want);
+    }
+
+    /** Three sorts, seven who come, by two of which one waits. */
+    private static IceSlab busyStall() {
+        IceSlab slab = Checks.stallOf("h3;f2491;f3282;f1590");
+        slab.buyer(0, 0, 14, 0);
+        slab.buyer(1, 0, 17, 0);
+        slab.buyer(2, 1, 19, 0);
+        slab.buyer(1, 2, 22, 1);
+        slab.buyer(2, 2, 13, 1);
+        slab.buyer(0, 1, 16, 2);
+        slab.buyer(1, 1, 25, 2);
+        slab.write(0, 1, 12);
+        slab.write(1, 1, 7);
+        slab.write(2, 0, 15);
+        slab.write(2, 2, 6);
+        slab.soup(1);
+        slab.beside(true);
+        return slab;
+    }
+
+    private static void best() {
+        IceSlab slab = Checks.stallOf("h2;f2190");
+        due("nobody comes: price", slab.best(0, 0, 0), 0);
+        due("nobody comes: profit", slab.best(0, 0, 1), -2);
+        slab.buyer(0, 0, 12, 0);
+        due("one comes: price", slab.best(0, 0, 0), 12);
+        due("one comes: profit", slab.best(0, 0, 1), 10);
+        due("in the other hour: price", slab.best(0, 1, 0), 0);
+        due("in the other hour: profit", slab.best(0, 1, 1), 7);
+        slab.buyer(0, 0, 6, 0);
+        due("two at 6 or one at 12: price", slab.best(0, 0, 0), 6);
+        due("two at 6 or one at 12: profit", slab.best(0, 0, 1), 10);
+        slab.buyer(0, 0, 40, 0);
+        slab.fish(0, 1);
+        due("one of three pays 40: the dearest price there is", slab.best(0, 0, 0), 30);
+        due("slate stays", slab.slate(0, 0), 9);
+    }
+
+    private static void bestByTrying() {
+        IceSlab slab = busyStall();
+        for (int s = 0; s < 3; s++) {
+            for (int t = 0; t < 3; t++) {
+                int was = slab.slate(s, t);
+                int choice = -1;
+                int most = Integer.MIN_VALUE;
+                for (int price = 0; price <= 30; price++) {
+                    slab.write(s, t, price);
+                    if (slab.day(3) > most) {
+                        most = slab.day(3);
+                        choice = price;
+                    }
+                }
+                slab.write(s, t, was);
+                due("best(" + s + ", " + t + ", 0)", slab.best(s, t, 0), choice);
+                due("best(" + s + ", " + t + ", 1)", slab.best(s, t, 1), most);
+                due("slate stays", slab.slate(s, t), was);
+            }
+        }
+    }
+
+    private static void takeOff() {
+        IceSlab slab = Checks.stallOf("h3;f2190");
+        due("nobody comes: profit", slab.takeOff(0), -2);
+        due("nobody comes: hour", slab.takeOff(1), -9);
+        due("nobody comes: x", slab.takeOff(2), 0);
+        slab.buyer(0, 0, 5, 1);
+        due("profit", slab.takeOff(0), 3);
+        due("the first hour", slab.takeOff(1), 0);
+        due("x", slab.takeOff(2), 4);
+        slab.buyer(0, 0, 9, 0);
+        due("profit", slab.takeOff(0), 12);
+        due("an hour later", slab.takeOff(1), 1);
+        due("x", slab.takeOff(2), 4);
+        due("slate stays", slab.slate(0, 1), 9);
+        // No less than 0: who pays 0 gets it for 0, and less goes to soup.
+        IceSlab cheap = Checks.stallOf("h1;f2190;f1090");
+        cheap.write(1, 0, 30);
+        cheap.write(0, 0, 2);
+        cheap.buyer(0, 1, 10, 0);
+        cheap.buyer(0, 0, 2, 0);
+        due("without", cheap.day(3), 0);
+        due("profit", cheap.takeOff(0), 8);
+        due("x", cheap.takeOff(2), 20);
+    }
+
+    private static void takeOffByTrying() {
+        IceSlab slab = busyStall();
+        int[][] was = new int[3][3];
+        for (int s = 0; s < 3; s++) {
+            for (int t = 0; t < 3; t++) {
+                was[s][t] = slab.slate(s, t);
+            }
+        }
+        int most = slab.day(3);
+        int hour = -9;
+        int off = 0;
+        for (int from = 0; from < 3; from++) {
+            for (int x = 1; x <= 30; x++) {
+                for (int s = 0; s < 3; s++) {
+                    for (int t = 0; t < 3; t++) {
+                        slab.write(s, t, t < from ? was[s][t] : Math.max(0, was[s][t] - x));
+                    }
+                }
+                if (slab.day(3) > most) {
+                    most = slab.day(3);
+                    hour = from;
+                    off = x;
+                }
+            }
+        }
+        for (int s = 0; s < 3; s++) {
+            for (int t = 0; t < 3; t++) {
+                slab.write(s, t, was[s][t]);
+            }
+        }
+        due("takeOff(0)", slab.takeOff(0), most);
+        due("takeOff(1)", slab.takeOff(1), hour);
+        due("takeOff(2)", slab.takeOff(2), off);
+    }
+
+    private static void fetch() {
+        IceSlab slab = Checks.stallOf("h1;f5290;f5890;f0090");
+        due("nobody comes: profit", slab.fetch(-1), 0);
+        for (int s = 0; s < 3; s++) {
+            due("nobody comes: fish", slab.fetch(s), 0);
+        }
+        due("no such sort", slab.fetch(3), -9);
+        slab.buyer(0, 0, 20, 0);
+        slab.buyer(0, 0, 20, 0);
+        slab.buyer(1, 1, 20, 0);
+        slab.buyer(0, 2, 8, 0);
+        due("two of the cheap one, one for nothing", slab.fetch(-1), 2 * 7 + 9);
+        due("of the cheap one", slab.fetch(0), 2);
+        due("not of the dear one", slab.fetch(1), 0);
+        due("of the one for nothing", slab.fetch(2), 1);
+        slab.soup(2);
+        due("soup pays as much: profit", slab.fetch(-1), 2 * 7 + 9 + 8 * 2);
+        due("soup pays as much: the least", slab.fetch(0), 2);
+        due("soup pays more", slab.fetch(2), 9);
+        slab.soup(9);
+        due("soup pays more of all", slab.fetch(0) + slab.fetch(1) + slab.fetch(2), 27);
+        due("fish stay", slab.ofSort(0, 0), 5);
+    }
+
+    private static void fetchByTrying() {
+        for (int soup = 0; soup <= 6; soup++) {
+            IceSlab slab = busyStall();
+            slab.soup(soup);
+            int most = Integer.MIN_VALUE;
+            int choice = 0;
+            for (int row = 0; row < 1000; row++) {
+                slab.fish(0, row / 100);
+                slab.fish(1, row / 10 % 10);
+                slab.fish(2, row % 10);
+                int profit = slab.day(3);
+                if (profit > most) {
+                    most = profit;
+                    choice = row;
+                }
+            }
+            due("fetch(-1)", slab.fetch(-1), most);
+            due("fetch(0)", slab.fetch(0), choice / 100);
+            due("fetch(1)", slab.fetch(1), choice / 10 % 10);
+            due("fetch(2)", slab.fetch(2), choice % 10);
+        }
+    }
+
+    private static void carried() {
+        IceSlab slab = Checks.stallOf("h1;f1490;f1290");
+        slab.buyer(1, 0, 11, 0);
+        due("he would take the other one", slab.carried(0), 3 - 7);
+        due("nobody wants it", slab.carried(1), -2);
+        due("fish stay", slab.many(3), 2);
+        IceSlab busy = busyStall();
+        for (int s = 0; s < 3; s++) {
+            int with = busy.day(3);
+            int carried = busy.carried(s);
+            int fish = busy.fish(s, 0);
+            due("carried(" + s + ")", carried, with - busy.day(3));
+            busy.fish(s, fish);
+        }
+    }
+
+    private static void cook() {
+        IceSlab slab = Checks.stallOf("h3;f3190;f1190");
+        slab.buyer(0, 0, 9, 0);
+        slab.buyer(0, 0, 9, 1);
+        slab.soup(1);
+        due("ahead of all: 3 * 4 for 9 + 9 + 1", slab.cook(0, 0, 4), 12 - 19);
+        due("behind the first one: 2 * 4 for 9 + 1", slab.cook(0, 1, 4), 8 - 10);
+        due("behind both: 4 for 1", slab.cook(0, 2, 4), 3);
+        due("for nothing", slab.cook(0, 2, 0), -1);
+        due("the dearest", slab.cook(1, 0, 30), 29);
+        due("the day goes without him", slab.day(0), 18);
+        due("fish stay", slab.many(3), 4);
+        slab.fish(0, 1);
+        due("none lie there any more", slab.cook(0, 1, 30), 0);
+        slab.buyer(2, 0, 9, 0);
+        IceSlab beside = Checks.stallOf("h1;f1190;f1190");
+        beside.write(1, 0, 10);
+        beside.buyer(0, 0, 8, 0);
+        beside.beside(true);
+        due("he takes the dearer one", beside.cook(1, 0, 5), 5 - 9);
+    }
+
+    private static void refused() {
+        IceSlab slab = new IceSlab();
+        due("new: best", slab.best(0, 0, 0), -1);
+        due("new: takeOff(0)", slab.takeOff(0), -3);
+        due("new: takeOff(3)", slab.takeOff(3), -2);
+        due("new: fetch(-1)", slab.fetch(-1), -3);
+        due("new: fetch(3)", slab.fetch(3), -3);
+        due("new: fetch(4)", slab.fetch(4), -1);
+        due("new: fetch(-2)", slab.fetch(-2), -1);
+        due("new: carried", slab.carried(0), -1);
+        due("new: cook", slab.cook(0, 0, 0), -1);
+        Checks.tellText(slab, "h2;f3190;f1190");
+        due("best(2, 0, 2)", slab.best(2, 0, 2), -1);
+        due("best(-1, 0, 0)", slab.best(-1, 0, 0), -1);
+        due("best(0, 2, 0)", slab.best(0, 2, 0), -1);
+        due("best(0, -1, 0)", slab.best(0, -1, 0), -1);
+        due("best(0, 0, 2)", slab.best(0, 0, 2), -2);
+        due("best(0, 0, -1)", slab.best(0, 0, -1), -2);
+        due("takeOff(-1)", slab.takeOff(-1), -2);
+        due("takeOff(3)", slab.takeOff(3), -2);
+        due("carried(2)", slab.carried(2), -1);
+        due("carried(-1)", slab.carried(-1), -1);
+        due("cook(2, 0, 31)", slab.cook(2, 0, 31), -1);
+        due("cook(-1, 0, 0)", slab.cook(-1, 0, 0), -1);
+        due("cook(0, 2, 31)", slab.cook(0, 2, 31), -1);
+        due("cook(0, -1, 0)", slab.cook(0, -1, 0), -1);
+        due("cook(0, 0, 31)", slab.cook(0, 0, 31), -2);
+        due("cook(0, 0, -1)", slab.cook(0, 0, -1), -2);
+    }
+}
