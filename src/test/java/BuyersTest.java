@@ -18,6 +18,7 @@ public final class BuyersTest {
         byNumbers();
         besideWhileItLies();
         gone();
+        fullStall();
         CHECKS.end("BuyersTest");
     }
 
@@ -277,5 +278,25 @@ public final class BuyersTest {
         due("day(2)", slab.day(2), 1);
         slab.buyer(0, 2, 9, 0);
         dueSold(slab, 2, 0, 0, 9);
+    }
+
+    private static void fullStall() {
+        IceSlab slab = Checks.stallOf("h8;f3190;f3190;f3190;f1190");
+        for (int x = 0; x < 10; x++) {
+            slab.buyer(x % 3, 3, 40, 7);
+        }
+        slab.write(3, 7, 30);
+        slab.beside(true);
+        // The first one takes the dear one, then each that chooses the least of the other sorts.
+        dueBought(slab, 0, 3, 7, 30, 1);
+        int[] sorts = {3, 0, 0, -9, 0, 1, -9, 1, 1, -9};
+        for (int x = 0; x < 10; x++) {
+            due("bought(" + x + ", 0)", slab.bought(x, 0), sorts[x]);
+        }
+        dueDay(slab, 30 + 6 * 9, 7, 3, 30 + 6 * 9 - 10);
+        dueSold(slab, 1, 0, 7, 27);
+        dueSold(slab, 2, 3, -9, 0);
+        dueSold(slab, 3, 0, 7, 30);
+        due("many(3)", slab.many(3), 10);
     }
 }

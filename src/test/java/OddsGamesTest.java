@@ -122,6 +122,9 @@ public final class OddsGamesTest {
         due("new: right(1, 1, 0)", slab.right(1, 1, 0), LOST);
         Checks.tellText(slab, "h8;f1111");
         due("right(6, 4, 0)", slab.right(6, 4, 0), 12);
+        due("right(1, 1, 0)", slab.right(1, 1, 0), 8);
+        due("right(1, 8, 0)", slab.right(1, 8, 0), 1);
+        due("right(1, 8, 1)", slab.right(1, 8, 1), 1);
         due("right(6, 4, 1)", slab.right(6, 4, 1), 1);
         due("right(5, 6, 0)", slab.right(5, 6, 0), 20);
         due("right(5, 6, 1)", slab.right(5, 6, 1), 3);
@@ -176,6 +179,11 @@ public final class OddsGamesTest {
         // 0 and 1 are no such odds; odds of one alone are none; nor is there one, if it is always more.
         dueMixed(new int[] {1, 1, 0, 0, 0, 0, 2, 0}, none);
         dueMixed(new int[] {1, 1, 0, 0, 0, 0, 0, 2}, none);
+        dueMixed(new int[] {-1, -1, 0, 0, 0, 0, 0, -3}, none);
+        dueMixed(new int[] {-1, -1, 0, 0, 0, 0, -3, 0}, none);
+        dueMixed(new int[] {0, -1, 0, 0, 0, 0, -3, -3}, none);
+        dueMixed(new int[] {-1, 0, 0, 0, 0, 0, -3, -3}, none);
+        dueMixed(new int[] {7, -1, 7, 0, 0, 0, 0, -3}, none);
         dueMixed(new int[] {1, 0, 0, 0, 0, 0, 2, 2}, none);
         dueMixed(new int[] {0, 1, 0, 0, 0, 0, 2, 2}, none);
         dueMixed(new int[] {5, 1, 5, 0, 1, 0, 1, 2}, none);

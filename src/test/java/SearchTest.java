@@ -11,6 +11,10 @@ public final class SearchTest {
         fetchByTrying();
         carried();
         cook();
+        fetchOfDrawnStalls();
+        fullStall();
+        nothingLingers();
+        withBeside();
         refused();
         CHECKS.end("SearchTest");
     }
@@ -92,6 +96,29 @@ public final class SearchTest {
         due("an hour later", slab.takeOff(1), 1);
         due("x", slab.takeOff(2), 4);
         due("slate stays", slab.slate(0, 1), 9);
+        due("when nothing is more, after that", slab.fish(0, 0), 2);
+        due("profit", slab.takeOff(0), 0);
+        due("hour", slab.takeOff(1), -9);
+        due("x", slab.takeOff(2), 0);
+        IceSlab edges = Checks.stallOf("h1;f1090");
+        edges.buyer(0, 0, 8, 0);
+        due("the least x", edges.takeOff(2), 1);
+        due("its profit", edges.takeOff(0), 8);
+        edges.write(0, 0, 10);
+        due("two off", edges.takeOff(2), 2);
+        IceSlab same = Checks.stallOf("h1;f1090");
+        same.buyer(0, 0, 0, 0);
+        due("given away is no more than left", same.takeOff(1), -9);
+        // He waits if it is cheaper in hour 1, in which it isn't worth so much any more: soup pays better than he.
+        IceSlab most = Checks.stallOf("h2;f1093");
+        most.write(0, 0, 1);
+        most.write(0, 1, 30);
+        most.buyer(2, 0, 1, 0);
+        most.soup(5);
+        due("without", most.day(3), 1);
+        due("profit", most.takeOff(0), 5);
+        due("hour", most.takeOff(1), 1);
+        due("the greatest x", most.takeOff(2), 30);
         // No less than 0: who pays 0 gets it for 0, and less goes to soup.
         IceSlab cheap = Checks.stallOf("h1;f2190;f1090");
         cheap.write(1, 0, 30);
@@ -251,5 +278,91 @@ public final class SearchTest {
         due("cook(0, -1, 0)", slab.cook(0, -1, 0), -1);
         due("cook(0, 0, 31)", slab.cook(0, 0, 31), -2);
         due("cook(0, 0, -1)", slab.cook(0, 0, -1), -2);
+    }
+
+    /** Small stalls in which much is alike, so that many rows bring as much. */
+    private static void fetchOfDrawnStalls() {
+        long drawn = 7;
+        for (int run = 0; run < 400; run++) {
+            int[] d = new int[60];
+            for (int i = 0; i < d.length; i++) {
+                drawn = drawn * 6364136223846793005L + 1442695040888963407L;
+                d[i] = (int) (drawn >>> 40);
+            }
+            IceSlab slab = Checks.stallOf("h2;f1" + d[0] % 4 + "9" + d[1] % 2 + ";f1" + d[2] % 4 + "9" + d[3] % 2);
+            for (int i = 0; i < 4; i++) {
+                slab.write(i / 2, i % 2, d[4 + i] % 4);
+            }
+            for (int x = 0; x < d[8] % 11; x++) {
+                slab.buyer(d[10 + x] % 3, d[20 + x] % 2, d[30 + x] % 6, d[40 + x] % 2);
+            }
+            slab.soup(d[50] % 4);
+            slab.beside(d[51] % 2 == 0);
+            int most = Integer.MIN_VALUE;
+            int choice = 0;
+            for (int row = 0; row < 100; row++) {
+                slab.fish(0, row / 10);
+                slab.fish(1, row % 10);
+                if (slab.day(3) > most) {
+                    most = slab.day(3);
+                    choice = row;
+                }
+            }
+            due("drawn stall " + run + ": fetch(-1)", slab.fetch(-1), most);
+            due("drawn stall " + run + ": fetch(0)", slab.fetch(0), choice / 10);
+            due("drawn stall " + run + ": fetch(1)", slab.fetch(1), choice % 10);
+        }
+    }
+
+    private static void fullStall() {
+        IceSlab slab = Checks.stallOf("h8;f1190;f1190;f1190;f1190");
+        for (int x = 0; x < 10; x++) {
+            slab.buyer(0, 3, 40, 7);
+        }
+        due("ten want one sort: fish", slab.fetch(3), 9);
+        due("ten want one sort: profit", slab.fetch(-1), 9 * 8);
+        due("none of the first", slab.fetch(0), 0);
+        due("best(3, 7, 0)", slab.best(3, 7, 0), 30);
+        due("best(3, 7, 1)", slab.best(3, 7, 1), 26);
+        due("carried(3)", slab.carried(3), 8);
+        due("cook(3, 7, 20)", slab.cook(3, 7, 20), 11);
+        due("cook(3, 0, 20)", slab.cook(3, 0, 20), 11);
+        due("takeOff(1)", slab.takeOff(1), -9);
+    }
+
+    /** What one call has tried is no part of what the next one tries. */
+    private static void nothingLingers() {
+        IceSlab slab = Checks.stallOf("h2;f2190");
+        slab.buyer(0, 0, 12, 0);
+        due("cook(0, 0, 30)", slab.cook(0, 0, 30), 60 - 9);
+        due("best without the cook: price", slab.best(0, 0, 0), 12);
+        due("carried without the cook", slab.carried(0), 7);
+        due("takeOff without the cook", slab.takeOff(0), 7);
+        due("fetch without the cook: profit", slab.fetch(-1), 8);
+        due("cook of the other hour", slab.cook(0, 1, 5), 5);
+        due("best without the cook: profit", slab.best(0, 0, 1), 10);
+        due("fetch after a greater profit", slab.fetch(-1), 8);
+        due("fish of it", slab.fetch(0), 1);
+        slab.write(0, 0, 0);
+        due("day(3)", slab.day(3), -2);
+        due("fetch after more", slab.fetch(-1), 0);
+        due("fish of it", slab.fetch(0), 0);
+    }
+
+    private static void withBeside() {
+        IceSlab slab = Checks.stallOf("h1;f1090;f1090");
+        slab.write(1, 0, 30);
+        slab.buyer(0, 0, 9, 0);
+        due("best(0, 0, 0)", slab.best(0, 0, 0), 9);
+        slab.beside(true);
+        due("beside: best(0, 0, 0)", slab.best(0, 0, 0), 10);
+        due("beside: best(0, 0, 1)", slab.best(0, 0, 1), 10);
+        slab.write(0, 0, 10);
+        due("beside: carried(1)", slab.carried(1), 10);
+        due("beside: fetch(1)", slab.fetch(1), 1);
+        due("beside: cook(1, 0, 9)", slab.cook(1, 0, 9), 9 - 10);
+        slab.beside(false);
+        due("no more beside: carried(1)", slab.carried(1), 0);
+        due("no more beside: takeOff(2)", slab.takeOff(2), 1);
     }
 }

@@ -27,8 +27,10 @@ public final class SheetsTest {
         IceSlab slab = new IceSlab();
         due("sheet(0, 2, 60)", slab.sheet(0, 2, 60), 1);
         due("cell(0, 59, 2)", slab.cell(0, 59, 2), 0);
+        slab.put(0, 0, 7);
         slab.put(0, 59, 7);
         due("sheet(0, 2, 60) again", slab.sheet(0, 2, 60), 1);
+        due("0 at first", slab.cell(0, 0, 2), 0);
         due("0 at first", slab.cell(0, 59, 2), 0);
         due("sheet(0, 1, 0)", slab.sheet(0, 1, 0), 1);
         due("no cells", slab.put(0, 0, 1), -13);

@@ -214,6 +214,9 @@ public final class StallTest {
             due("copyOut three", slab.copyOut(0, 1, lane, 1, 3), 3);
             due("slate(0, 2)", slab.slate(0, 2), 12);
             due("fault()", slab.fault(), 0);
+            due("copyOut one, the last", slab.copyOut(0, 1, lane, 3, 1), 1);
+            due("slate(0, 0)", slab.slate(0, 0), 12);
+            due("slate(0, 1)", slab.slate(0, 1), 30);
         }
     }
 
