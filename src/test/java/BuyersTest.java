@@ -115,6 +115,8 @@ public final class BuyersTest {
         due("as dear in another hour", slab.worth(0, 0, 1), 20);
         due("the day sells the dear one", slab.sold(1, 0), 0);
         due("as if all lay there", slab.worth(0, 0, 0), 21);
+        slab.write(0, 1, 10);
+        due("beside sort 0", slab.worth(0, 1, 1), 19);
         slab.fish(1, 0);
         due("none of the dearer one", slab.worth(0, 0, 0), 20);
     }
