@@ -106,18 +106,7 @@ public final class BuyersEdgesTest {
     }
 
     private static IceSlab stall(String text, int... buyers) {
-        IceSlab slab = Checks.stallOf(text);
-        for (int b = 0; b < buyers.length; b += 4) {
-            due("buyer " + b / 4, slab.buyer(buyers[b], buyers[b + 1], buyers[b + 2], buyers[b + 3]), b / 4);
-        }
-        return slab;
-    }
-
-    /** Prices of a SORT from HOUR 0 on. */
-    private static void prices(IceSlab slab, int s, int... prices) {
-        for (int t = 0; t < prices.length; t++) {
-            slab.write(s, t, prices[t]);
-        }
+        return Checks.stallOf(text, buyers);
     }
 
     // ---- Promises 11 and 12
@@ -337,7 +326,7 @@ public final class BuyersEdgesTest {
     private static void worthIfAllLay() {
         IceSlab slab = stall("h2;f1190;f1190", 0, 1, 40, 0, 0, 0, 20, 1);
         slab.beside(true);
-        prices(slab, 1, 30, 30);
+        Checks.prices(slab, 1, 30, 30);
         due("the dear one is gone in hour 0", slab.sold(1, 1), 0);
         due("as if it lay there in hour 1", slab.worth(1, 0, 1), 21);
         due("he himself pays without it", slab.bought(1, 2), 9);
@@ -476,9 +465,9 @@ public final class BuyersEdgesTest {
     /** "of the greatest WORTH less price" */
     private static void greatestWorthLessPrice() {
         IceSlab slab = stall("h1;f0090;f1090;f1050;f1000", 1, 0, 30, 0);
-        prices(slab, 1, 10);
-        prices(slab, 2, 5);
-        prices(slab, 3, 0);
+        Checks.prices(slab, 1, 10);
+        Checks.prices(slab, 2, 5);
+        Checks.prices(slab, 3, 0);
         dueBought("18 less, 19 less, 19 less", slab, 0, 2, 0, 5, 1);
         slab.write(1, 0, 8);
         dueBought("20 less", slab, 0, 1, 0, 8, 1);
@@ -514,9 +503,9 @@ public final class BuyersEdgesTest {
     /** "if there is a next HOUR, and his SORT is cheaper in it .., he buys nothing now" */
     private static void waitsIfCheaperNext() {
         IceSlab slab = stall("h2;f1090", 2, 0, 40, 0);
-        prices(slab, 0, 9, 8);
+        Checks.prices(slab, 0, 9, 8);
         dueBought("cheaper by 1", slab, 0, 0, 1, 8, 2);
-        prices(slab, 0, 1, 0);
+        Checks.prices(slab, 0, 1, 0);
         dueBought("for nothing", slab, 0, 0, 1, 0, 2);
     }
 
@@ -524,31 +513,31 @@ public final class BuyersEdgesTest {
     private static void asDearNextIsNotCheaper() {
         IceSlab slab = stall("h2;f1090", 2, 0, 40, 0);
         dueBought("9 and 9", slab, 0, 0, 0, 9, 1);
-        prices(slab, 0, 0, 0);
+        Checks.prices(slab, 0, 0, 0);
         dueBought("0 and 0", slab, 0, 0, 0, 0, 1);
-        prices(slab, 0, 9, 10);
+        Checks.prices(slab, 0, 9, 10);
         dueBought("9 and 10", slab, 0, 0, 0, 9, 1);
     }
 
     /** "a next HOUR": not any later one. */
     private static void cheaperAfterNextIsNotNext() {
         IceSlab slab = stall("h3;f1090", 2, 0, 40, 0);
-        prices(slab, 0, 9, 9, 0);
+        Checks.prices(slab, 0, 9, 9, 0);
         dueBought("two hours later", slab, 0, 0, 0, 9, 1);
     }
 
     /** "if there is a next HOUR" */
     private static void lastHourHasNoNext() {
         IceSlab slab = stall("h3;f1090", 2, 0, 40, 2);
-        prices(slab, 0, 0, 0, 30);
+        Checks.prices(slab, 0, 0, 0, 30);
         dueBought("in the last hour", slab, 0, 0, 2, 30, 1);
     }
 
     /** The same, with as many HOURS as there can be. */
     private static void lastHourOfEightHasNoNext() {
         IceSlab slab = stall("h8;f1090;f1090", 2, 0, 40, 7, 2, 1, 40, 7);
-        prices(slab, 0, 0, 0, 0, 0, 0, 0, 0, 30);
-        prices(slab, 1, 0, 0, 0, 0, 0, 0, 0, 30);
+        Checks.prices(slab, 0, 0, 0, 0, 0, 0, 0, 0, 30);
+        Checks.prices(slab, 1, 0, 0, 0, 0, 0, 0, 0, 30);
         dueBought("in hour 7", slab, 0, 0, 7, 30, 1);
         dueBought("in hour 7", slab, 1, 1, 7, 30, 1);
     }
@@ -567,7 +556,7 @@ public final class BuyersEdgesTest {
     /** "his SORT is cheaper in it": not another one. */
     private static void othersCheaperNextAreNotHis() {
         IceSlab slab = stall("h2;f1090;f1090", 2, 0, 40, 0, 2, 0, 40, 0);
-        prices(slab, 1, 9, 0);
+        Checks.prices(slab, 1, 9, 0);
         dueBought("his own", slab, 0, 0, 0, 9, 1);
         dueBought("the other one", slab, 1, 1, 0, 9, 1);
     }
@@ -575,18 +564,18 @@ public final class BuyersEdgesTest {
     /** "he buys nothing now", though it will be too dear for him then, or not worth it. */
     private static void waitsThoughNextIsTooDear() {
         IceSlab slab = stall("h2;f1093", 2, 0, 10, 0);
-        prices(slab, 0, 9, 8);
+        Checks.prices(slab, 0, 9, 8);
         dueNothing("9 for 10, then 8 for 7", slab, 0, 2);
-        prices(slab, 0, 8, 7);
+        Checks.prices(slab, 0, 8, 7);
         dueBought("8 for 10, then 7 for 7", slab, 0, 0, 1, 7, 2);
     }
 
     /** "his SORT is cheaper in it on THE SLATE": the slate tells it, whether one lies or not. */
     private static void waitsThoughNoneLies() {
         IceSlab slab = stall("h2;f0090;f1090", 2, 0, 40, 0);
-        prices(slab, 0, 9, 8);
+        Checks.prices(slab, 0, 9, 8);
         dueBought("he waits with none of his", slab, 0, 1, 1, 9, 2);
-        prices(slab, 0, 9, 9);
+        Checks.prices(slab, 0, 9, 9);
         dueBought("he takes the other one at once", slab, 0, 1, 0, 9, 1);
     }
 
@@ -603,7 +592,7 @@ public final class BuyersEdgesTest {
     /** He comes from his HOUR on, not ahead of it. */
     private static void comesAnewFromHisHourOn() {
         IceSlab slab = stall("h4;f1090", 2, 0, 8, 2, 2, 0, 8, 3);
-        prices(slab, 0, 0, 0, 9, 9);
+        Checks.prices(slab, 0, 0, 0, 9, 9);
         dueNothing("from hour 2 on", slab, 0, 2);
         dueNothing("in the last hour", slab, 1, 1);
     }
@@ -611,7 +600,7 @@ public final class BuyersEdgesTest {
     /** "who bought nothing comes again": who bought does not. */
     private static void comesNoMoreOnceHeBought() {
         IceSlab slab = stall("h4;f9090", 2, 0, 20, 0);
-        prices(slab, 0, 9, 9, 3, 0);
+        Checks.prices(slab, 0, 9, 9, 3, 0);
         dueBought("at once", slab, 0, 0, 0, 9, 1);
         due("one is sold", slab.day(1), 1);
     }
@@ -637,7 +626,7 @@ public final class BuyersEdgesTest {
     /** He waits as often as it is cheaper, and no longer. */
     private static void waitsHourByHour() {
         IceSlab slab = stall("h5;f1090", 2, 0, 40, 0);
-        prices(slab, 0, 9, 8, 7, 7, 6);
+        Checks.prices(slab, 0, 9, 8, 7, 7, 6);
         dueBought("till hour 2", slab, 0, 0, 2, 7, 3);
     }
 
@@ -653,11 +642,11 @@ public final class BuyersEdgesTest {
     /** "in each those who come, by numbers": who waited has no place ahead, nor behind. */
     private static void byNumbersInAnHour() {
         IceSlab slab = stall("h2;f1090", 0, 0, 40, 1, 2, 0, 40, 0);
-        prices(slab, 0, 9, 8);
+        Checks.prices(slab, 0, 9, 8);
         dueBought("the lesser number", slab, 0, 0, 1, 8, 1);
         dueNothing("who waited", slab, 1, 2);
         IceSlab other = stall("h2;f1090", 2, 0, 40, 0, 0, 0, 40, 1);
-        prices(other, 0, 9, 8);
+        Checks.prices(other, 0, 9, 8);
         dueBought("who waited, of the lesser number", other, 0, 0, 1, 8, 2);
         dueNothing("the greater number", other, 1, 1);
     }

@@ -36,12 +36,29 @@ final class Checks {
         return slab.stall(0, 2, 0, text.length());
     }
 
-    /** A new object with a stall that is told. */
-    static IceSlab stallOf(String text) {
+    /** A new object with a stall that is told; of each buyer kind, SORT, what he PAYS, HOUR. */
+    static IceSlab stallOf(String text, int... buyers) {
         IceSlab slab = new IceSlab();
         if (tellText(slab, text) < 1) {
             throw new IllegalStateException("no text: " + text);
         }
+        for (int b = 0; b < buyers.length; b += 4) {
+            if (slab.buyer(buyers[b], buyers[b + 1], buyers[b + 2], buyers[b + 3]) != b / 4) {
+                throw new IllegalStateException("no buyer: " + b / 4);
+            }
+        }
         return slab;
+    }
+
+    /** A stall with a buyer of each kind, numbered as it is. */
+    static IceSlab withOneOfEachKind() {
+        return stallOf("h2;f1111;f1111", 0, 0, 12, 0, 1, 1, 14, 1, 2, 0, 15, 0);
+    }
+
+    /** Prices of a SORT from HOUR 0 on. */
+    static void prices(IceSlab slab, int s, int... prices) {
+        for (int t = 0; t < prices.length; t++) {
+            slab.write(s, t, prices[t]);
+        }
     }
 }

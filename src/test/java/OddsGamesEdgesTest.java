@@ -30,6 +30,7 @@ public final class OddsGamesEdgesTest {
         meanBelowZero();
         meanInLeastTerms();
         meanFarthest();
+        weightsBehindOthers();
         meanNumbersOutside();
         meanWhich();
         meanSheetsAndLanes();
@@ -73,6 +74,7 @@ public final class OddsGamesEdgesTest {
         mixedInLeastTerms();
         mixedNearestToZeroAndOne();
         mixedNumbersOutside();
+        gameBehindAnother();
         mixedWhatAndWhich();
         mixedSheetsAndLanes();
         mixedFaults();
@@ -245,6 +247,18 @@ public final class OddsGamesEdgesTest {
         dueMean(-1980, 1, 20, 99, 0, 0, all);
         dueMean(1980, 1, 20, 0, 99, 99, all);
         dueMean(19 * 99, 2, 20, 0, 99, 0, all);
+    }
+
+    /** Weights that are refused are no other ones, either. */
+    private static void weightsBehindOthers() {
+        IceSlab slab = rowOf(0, 1, 0, 0, 100);
+        due("mean of the first two", slab.mean(0, 2, 0, 2, 1, 1, 5, 0, 0), 4);
+        due("mean of two zeros", slab.mean(0, 2, 2, 2, 1, 1, 5, 0, 0), LOST);
+        due("mean of a weight of 100", slab.mean(0, 2, 3, 2, 1, 1, 5, 0, 0), LOST);
+        due("mean beyond", slab.mean(0, 2, 4, 2, 1, 1, 5, 0, 0), LOST);
+        due("howMany of the first two", slab.howMany(0, 2, 0, 2, 1, 5, 0), 1);
+        due("howMany of the first one", slab.howMany(0, 2, 0, 1, 1, 5, 0), -2);
+        due("mean of one more", slab.mean(0, 2, 1, 1, 1, 1, 5, 0, 0), -1);
     }
 
     /** "OUTSIDE: .. c, p, o": each alone. */
@@ -644,6 +658,10 @@ public final class OddsGamesEdgesTest {
     private static void mixedNearestToZeroAndOne() {
         dueMixed(1, 199, 198, 199, 1, 99, -99, -99, 0, 0, 99, 1);
         dueMixed(198, 199, 1, 199, 99, 1, 0, 0, -99, -99, 1, 99);
+        dueMixed(1, 199, 198, 199, -1, -99, 99, 99, 0, 0, -99, -1);
+        dueMixed(198, 199, 1, 199, -99, -1, 0, 0, 99, 99, -1, -99);
+        dueMixed(1, 2, 1, 2, 1, 1, 0, 0, 0, 0, 1, 1);
+        dueMixed(1, 2, 1, 2, -1, -1, 0, 0, 0, 0, -1, -1);
     }
 
     /** "OUTSIDE: a number": each place. */
@@ -657,6 +675,18 @@ public final class OddsGamesEdgesTest {
                 due("its fault", slab.fault(), 0);
             }
         }
+    }
+
+    /** A GAME that is refused is no other one, either. */
+    private static void gameBehindAnother() {
+        IceSlab slab = rowOf(1, 1, 0, 0, 0, 0, 2, 2, 100);
+        due("mixed of the first", slab.mixed(0, 2, 0, 0, 0), 2);
+        due("mixed of the second", slab.mixed(0, 2, 1, 0, 0), LOST);
+        due("mixed of the third", slab.mixed(0, 2, 2, 0, 0), LOST);
+        due("mixed of nothing", slab.mixed(1, 2, 0, 0, 0), LOST);
+        due("rests of the first", slab.rests(0, 2, 0), 9);
+        due("rests of the second", slab.rests(0, 2, 1), -2);
+        due("mixed of the first", slab.mixed(0, 2, 0, 0, 1), 3);
     }
 
     /** "OUTSIDE: .. what, which" */

@@ -5,7 +5,9 @@ import java.util.TreeMap;
 
 /** Runs of calls, drawn by a fixed row of numbers, compared with PlainSlab. */
 public final class RandomRunsTest {
-    private static final int RUNS = 1500, STEPS = 100;
+    private static final int RUNS = 1800, STEPS = 100;
+    /** No object is asked more than 512 times: a step takes some 40 calls at most, the last look 150. */
+    private static final int CALLS_OF_STEPS = 320, CALLS = 512;
     private static final String[] NAMES = {"stall", "ofSort", "fresh", "fish", "slate", "write", "copyOut", "soup",
         "beside", "buyer", "ofBuyer", "worth", "day", "bought", "sold", "best", "takeOff", "fetch", "carried", "cook",
         "mean", "howMany", "right", "rests", "mixed", "sheet", "lose", "put", "cell", "copy", "tell", "greet", "as",
@@ -18,6 +20,7 @@ public final class RandomRunsTest {
     private PlainSlab plain;
     private int wrong;
     private StringBuilder told;
+    private int calls;
     /** Dear for the plain model, so not many of them. */
     private int fetchesLeft = 400;
 
@@ -36,7 +39,7 @@ public final class RandomRunsTest {
                 test.wrong++;
             }
         }
-        System.out.println("RandomRunsTest: " + RUNS + " runs of " + STEPS + " steps, " + test.wrong + " wrong");
+        System.out.println("RandomRunsTest: " + RUNS + " runs of up to " + STEPS + " steps, " + test.wrong + " wrong");
         if (test.wrong != 0) {
             System.exit(1);
         }
@@ -62,6 +65,7 @@ public final class RandomRunsTest {
     }
 
     private long call(String name, int... args) throws ReflectiveOperationException {
+        calls++;
         Method m = METHODS.get(name);
         Object[] given = new Object[args.length];
         for (int i = 0; i < args.length; i++) {
@@ -83,19 +87,24 @@ public final class RandomRunsTest {
         slab = new IceSlab();
         plain = new PlainSlab();
         told = new StringBuilder("run " + run + "\n");
+        calls = 0;
         if (!oneOf(10)) {
             tellText(draw(0, 3), false);
             for (int x = draw(0, 10); x > 0; x--) {
                 call("buyer", draw(0, 2), near(0, 3), draw(0, 40), near(0, 7));
             }
         }
-        for (int i = 0; i < STEPS && wrong == 0; i++) {
+        for (int i = 0; i < STEPS && calls < CALLS_OF_STEPS && wrong == 0; i++) {
             step();
             if (oneOf(3)) {
                 call("fault");
             }
         }
         lookAtAll();
+        if (calls > CALLS) {
+            wrong++;
+            System.out.println("run " + run + " took " + calls + " calls");
+        }
     }
 
     private void lookAtAll() throws ReflectiveOperationException {

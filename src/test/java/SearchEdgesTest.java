@@ -15,6 +15,7 @@ public final class SearchEdgesTest {
         bestIsThirtyAtMost();
         bestWithoutFish();
         bestOfOneSortAndHour();
+        bestBeside();
         bestBelowZero();
         bestChangesNothing();
         bestEdges();
@@ -37,6 +38,7 @@ public final class SearchEdgesTest {
         fetchNineAtMost();
         fetchAnyNumber();
         fetchFirstAsARow();
+        fetchFirstAsARowWithSoup();
         fetchLeastWhereSoupPaysAsMuch();
         fetchNineWhereSoupPaysMore();
         fetchWhateverLies();
@@ -70,18 +72,7 @@ public final class SearchEdgesTest {
     }
 
     private static IceSlab stall(String text, int... buyers) {
-        IceSlab slab = Checks.stallOf(text);
-        for (int b = 0; b < buyers.length; b += 4) {
-            due("buyer " + b / 4, slab.buyer(buyers[b], buyers[b + 1], buyers[b + 2], buyers[b + 3]), b / 4);
-        }
-        return slab;
-    }
-
-    /** Prices of a SORT from HOUR 0 on. */
-    private static void prices(IceSlab slab, int s, int... prices) {
-        for (int t = 0; t < prices.length; t++) {
-            slab.write(s, t, prices[t]);
-        }
+        return Checks.stallOf(text, buyers);
     }
 
     private static void dueBest(String told, IceSlab slab, int s, int t, int price, int profit) {
@@ -130,7 +121,7 @@ public final class SearchEdgesTest {
     /** "a price (0 .. 30)": for 0 he waits for what he then doesn't take; soup pays more than he. */
     private static void bestMayBeZero() {
         IceSlab slab = stall("h2;f1093", 2, 0, 1, 0);
-        prices(slab, 0, 1, 30);
+        Checks.prices(slab, 0, 1, 30);
         slab.soup(5);
         dueBest("0 alone", slab, 0, 1, 0, 5);
         slab.write(0, 0, 0);
@@ -154,6 +145,17 @@ public final class SearchEdgesTest {
         IceSlab slab = stall("h8;f9090;f9090;f9090;f9090", 0, 3, 20, 7, 0, 3, 20, 6, 0, 2, 20, 7);
         dueBest("sort 3, hour 7", slab, 3, 7, 20, 20 + 9 + 9);
         dueBest("sort 0, hour 0", slab, 0, 0, 0, 27);
+    }
+
+    /** With BESIDE the least price is that by which it is dearer, or one more than he pays. */
+    private static void bestBeside() {
+        IceSlab slab = stall("h1;f1090;f1090", 0, 0, 8, 0);
+        slab.beside(true);
+        dueBest("the dearer one", slab, 1, 0, 10, 9);
+        slab.write(1, 0, 10);
+        dueBest("beside the dearer one", slab, 0, 0, 9, 9);
+        slab.write(1, 0, 9);
+        dueBest("beside one as dear", slab, 0, 0, 8, 8);
     }
 
     /** "PROFIT with it (1)": below 0, also where it looks like a refusal. */
@@ -200,7 +202,7 @@ public final class SearchEdgesTest {
     /** "x (1 .. 30)": the greatest; 30 less 30 is what he waits for, then doesn't take, so that soup pays more. */
     private static void takeOffThirtyAtMost() {
         IceSlab slab = stall("h2;f1093", 2, 0, 1, 0);
-        prices(slab, 0, 1, 30);
+        Checks.prices(slab, 0, 1, 30);
         slab.soup(5);
         dueOff("30 off", slab, 5, 1, 30);
         slab.write(0, 1, 29);
@@ -210,8 +212,8 @@ public final class SearchEdgesTest {
     /** "less (0 at least)": who pays 0 has it for 0, who pays 10 for the dearer one pays all of that. */
     private static void takenOffPricesAreZeroAtLeast() {
         IceSlab slab = stall("h1;f1090;f1090", 0, 0, 2, 0, 0, 1, 10, 0);
-        prices(slab, 0, 2);
-        prices(slab, 1, 30);
+        Checks.prices(slab, 0, 2);
+        Checks.prices(slab, 1, 30);
         dueOff("2 less 20 is 0", slab, 10, 0, 20);
     }
 
@@ -234,6 +236,12 @@ public final class SearchEdgesTest {
         IceSlab free = stall("h1;f1190", 0, 0, 40, 0);
         free.write(0, 0, 0);
         dueOff("nothing to take off", free, -1, -9, 0);
+        IceSlab later = stall("h1;f1090", 0, 0, 5, 0);
+        dueOff("4 off", later, 5, 0, 4);
+        later.write(0, 0, 5);
+        dueOff("nothing more", later, 5, -9, 0);
+        due("a best price ahead of it", later.best(0, 0, 0), 5);
+        due("takeOff(2)", later.takeOff(2), 0);
     }
 
     /** "of several the first HOUR" */
@@ -245,8 +253,8 @@ public final class SearchEdgesTest {
     /** "the first HOUR, then the least x": from 0 on 5 off bring 15, from 1 on 4 off do. */
     private static void takeOffFirstHourAheadOfLeastX() {
         IceSlab slab = stall("h2;f9090;f9090", 0, 0, 10, 0, 0, 0, 5, 0, 0, 0, 5, 1, 0, 1, 1, 0);
-        prices(slab, 0, 10, 9);
-        prices(slab, 1, 6, 9);
+        Checks.prices(slab, 0, 10, 9);
+        Checks.prices(slab, 1, 6, 9);
         due("as it is", slab.day(3), 10);
         dueOff("5 from hour 0 on", slab, 15, 0, 5);
         slab.write(1, 0, 7);
@@ -332,6 +340,14 @@ public final class SearchEdgesTest {
         dueFetched("0, 1 ahead of 1, 0", stall("h1;f5290;f5290", 1, 0, 20, 0), 7, 0, 1);
         dueFetched("0, 0, 1 ahead of 0, 1, 0", stall("h1;f5290;f5290;f5290", 1, 1, 20, 0), 7, 0, 0, 1);
         dueFetched("sort 0 is cheaper", stall("h1;f5190;f5290", 1, 1, 20, 0), 8, 1, 0);
+    }
+
+    /** The same where SOUP fills up: with nine of sort 1, too, he takes that for nothing, and soup makes up for it. */
+    private static void fetchFirstAsARowWithSoup() {
+        IceSlab slab = stall("h1;f0190;f0290", 1, 1, 12, 0);
+        slab.soup(3);
+        slab.write(1, 0, 0);
+        dueFetched("9, 0 ahead of 9, 9", slab, 24, 9, 0);
     }
 
     /** The same: what brings nothing is left out. */
@@ -487,7 +503,9 @@ public final class SearchEdgesTest {
 
     /** "takes all that lie there of a SORT" */
     private static void cookTakesAllThatLie() {
-        due("nine", stall("h1;f9990;f9990").cook(1, 0, 30), 270);
+        IceSlab slab = stall("h1;f1990;f9990");
+        due("nine of sort 1", slab.cook(1, 0, 30), 270);
+        due("one of sort 0", slab.cook(0, 0, 30), 30);
     }
 
     /** None lie there: he takes nothing. */
@@ -506,12 +524,21 @@ public final class SearchEdgesTest {
         due("nothing dearer lies beside", slab.cook(1, 0, 20), 20 - 9);
     }
 
-    /** PROFIT without him is as ever. */
+    /** PROFIT without him is as ever, and he is in no other search. */
     private static void cookChangesNothing() {
         IceSlab slab = Refused.busy();
         slab.cook(0, 0, 30);
         slab.cook(1, 2, 0);
         dueUnchanged("cook", slab);
+        IceSlab other = stall("h1;f2090", 0, 0, 12, 0);
+        due("for 30 each", other.cook(0, 0, 30), 60 - 9);
+        dueBest("without him", other, 0, 0, 12, 12);
+        other.cook(0, 0, 30);
+        due("carried without him", other.carried(0), 9);
+        other.cook(0, 0, 30);
+        dueOff("without him", other, 9, -9, 0);
+        other.cook(0, 0, 30);
+        dueFetched("without him", other, 9, 1);
     }
 
     /** "UNKNOWN: SORT, HOUR; OUTSIDE." */

@@ -61,9 +61,10 @@ public final class SearchTest {
     }
 
     private static void bestByTrying() {
-        IceSlab slab = busyStall();
         for (int s = 0; s < 3; s++) {
             for (int t = 0; t < 3; t++) {
+                // A new object for each: no object is asked more than 512 times.
+                IceSlab slab = busyStall();
                 int was = slab.slate(s, t);
                 int choice = -1;
                 int most = Integer.MIN_VALUE;
@@ -131,38 +132,33 @@ public final class SearchTest {
     }
 
     private static void takeOffByTrying() {
-        IceSlab slab = busyStall();
-        int[][] was = new int[3][3];
-        for (int s = 0; s < 3; s++) {
-            for (int t = 0; t < 3; t++) {
-                was[s][t] = slab.slate(s, t);
-            }
-        }
-        int most = slab.day(3);
+        int most = busyStall().day(3);
         int hour = -9;
         int off = 0;
         for (int from = 0; from < 3; from++) {
             for (int x = 1; x <= 30; x++) {
-                for (int s = 0; s < 3; s++) {
-                    for (int t = 0; t < 3; t++) {
-                        slab.write(s, t, t < from ? was[s][t] : Math.max(0, was[s][t] - x));
-                    }
-                }
-                if (slab.day(3) > most) {
-                    most = slab.day(3);
+                int profit = profitTakingOff(from, x);
+                if (profit > most) {
+                    most = profit;
                     hour = from;
                     off = x;
                 }
             }
         }
-        for (int s = 0; s < 3; s++) {
-            for (int t = 0; t < 3; t++) {
-                slab.write(s, t, was[s][t]);
-            }
-        }
+        IceSlab slab = busyStall();
         due("takeOff(0)", slab.takeOff(0), most);
         due("takeOff(1)", slab.takeOff(1), hour);
         due("takeOff(2)", slab.takeOff(2), off);
+    }
+
+    private static int profitTakingOff(int from, int x) {
+        IceSlab slab = busyStall();
+        for (int s = 0; s < 3; s++) {
+            for (int t = from; t < 3; t++) {
+                slab.write(s, t, Math.max(0, slab.slate(s, t) - x));
+            }
+        }
+        return slab.day(3);
     }
 
     private static void fetch() {
@@ -191,25 +187,31 @@ public final class SearchTest {
 
     private static void fetchByTrying() {
         for (int soup = 0; soup <= 6; soup++) {
-            IceSlab slab = busyStall();
-            slab.soup(soup);
             int most = Integer.MIN_VALUE;
             int choice = 0;
             for (int row = 0; row < 1000; row++) {
-                slab.fish(0, row / 100);
-                slab.fish(1, row / 10 % 10);
-                slab.fish(2, row % 10);
-                int profit = slab.day(3);
+                int profit = profitWithFish(soup, row / 100, row / 10 % 10, row % 10);
                 if (profit > most) {
                     most = profit;
                     choice = row;
                 }
             }
+            IceSlab slab = busyStall();
+            slab.soup(soup);
             due("fetch(-1)", slab.fetch(-1), most);
             due("fetch(0)", slab.fetch(0), choice / 100);
             due("fetch(1)", slab.fetch(1), choice / 10 % 10);
             due("fetch(2)", slab.fetch(2), choice % 10);
         }
+    }
+
+    private static int profitWithFish(int soup, int... fish) {
+        IceSlab slab = busyStall();
+        slab.soup(soup);
+        for (int s = 0; s < fish.length; s++) {
+            slab.fish(s, fish[s]);
+        }
+        return slab.day(3);
     }
 
     private static void carried() {

@@ -528,19 +528,11 @@ public final class SheetsEdgesTest {
 
     // ---- Promises 32 to 34
 
-    private static IceSlab withOneOfEachKind() {
-        IceSlab slab = Checks.stallOf("h2;f1111;f1111");
-        slab.buyer(0, 0, 12, 0);
-        slab.buyer(1, 1, 14, 1);
-        slab.buyer(2, 0, 15, 0);
-        return slab;
-    }
-
     /** "BUYER (1): what he PAYS. CHOOSING (2): .. and 100. WAITING (3): .. and what BUYER's gives" */
     private static void tellEachKind() {
         int[] due = {12, 114, 130};
         for (int x = 0; x < 3; x++) {
-            due("tell(" + x + ")", withOneOfEachKind().tell(x), due[x]);
+            due("tell(" + x + ")", Checks.withOneOfEachKind().tell(x), due[x]);
         }
         IceSlab slab = Checks.stallOf("h2;f1111");
         for (int kind = 0; kind < 3; kind++) {
@@ -565,7 +557,7 @@ public final class SheetsEdgesTest {
     private static void tellTrace() {
         int[] due = {1, 2 * 31 + 1, ((3 * 31 + 2) * 31 + 1) * 31 + 1};
         for (int x = 0; x < 3; x++) {
-            IceSlab slab = withOneOfEachKind();
+            IceSlab slab = Checks.withOneOfEachKind();
             slab.tell(x);
             due("trace() behind tell(" + x + ")", slab.trace(), due[x]);
         }
@@ -582,9 +574,9 @@ public final class SheetsEdgesTest {
 
     /** "GREETED by a lent body (4): the number of that BUYER; WAITING ones have their own (5): 60." */
     private static void greetEachKind() {
-        due("greet(0)", withOneOfEachKind().greet(0), 0);
-        due("greet(1)", withOneOfEachKind().greet(1), 1);
-        due("greet(2)", withOneOfEachKind().greet(2), 60);
+        due("greet(0)", Checks.withOneOfEachKind().greet(0), 0);
+        due("greet(1)", Checks.withOneOfEachKind().greet(1), 1);
+        due("greet(2)", Checks.withOneOfEachKind().greet(2), 60);
         IceSlab slab = Checks.stallOf("h1;f1111");
         for (int x = 0; x < 10; x++) {
             slab.buyer(x % 2, 0, 0, 0);
@@ -597,7 +589,7 @@ public final class SheetsEdgesTest {
     private static void greetTrace() {
         int[] due = {4, 4, 5};
         for (int x = 0; x < 3; x++) {
-            IceSlab slab = withOneOfEachKind();
+            IceSlab slab = Checks.withOneOfEachKind();
             slab.greet(x);
             due("trace() behind greet(" + x + ")", slab.trace(), due[x]);
         }
@@ -617,7 +609,7 @@ public final class SheetsEdgesTest {
         for (int x = 0; x < 3; x++) {
             for (int kind = 0; kind < 3; kind++) {
                 if (kind <= x) {
-                    IceSlab slab = withOneOfEachKind();
+                    IceSlab slab = Checks.withOneOfEachKind();
                     due("as(" + x + ", " + kind + ")", slab.as(x, kind), 1);
                     due("fault()", slab.fault(), 0);
                     due("trace()", slab.trace(), 0);
@@ -653,12 +645,12 @@ public final class SheetsEdgesTest {
     /** "0 at first" */
     private static void traceAtFirst() {
         due("trace()", new IceSlab().trace(), 0);
-        due("with buyers", withOneOfEachKind().trace(), 0);
+        due("with buyers", Checks.withOneOfEachKind().trace(), 0);
     }
 
     /** "an int that wraps": beyond the greatest and, from there, beyond the least. */
     private static void traceWraps() {
-        IceSlab slab = withOneOfEachKind();
+        IceSlab slab = Checks.withOneOfEachKind();
         int trace = 0;
         int above = 0;
         int below = 0;
@@ -682,7 +674,7 @@ public final class SheetsEdgesTest {
 
     /** "They change nothing" */
     private static void traceIsLeftByRefusedCalls() {
-        IceSlab slab = withOneOfEachKind();
+        IceSlab slab = Checks.withOneOfEachKind();
         slab.greet(0);
         slab.greet(3);
         slab.tell(-1);

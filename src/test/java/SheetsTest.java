@@ -154,22 +154,14 @@ public final class SheetsTest {
         dueRow(slab, 2, 1, 6, 7);
     }
 
-    private static IceSlab withOneOfEachKind() {
-        IceSlab slab = Checks.stallOf("h2;f1111;f1111");
-        slab.buyer(0, 0, 12, 0);
-        slab.buyer(1, 1, 14, 1);
-        slab.buyer(2, 0, 15, 0);
-        return slab;
-    }
-
     private static void tell() {
-        IceSlab slab = withOneOfEachKind();
+        IceSlab slab = Checks.withOneOfEachKind();
         due("tell(0)", slab.tell(0), 12);
         due("trace()", slab.trace(), 1);
         due("tell(1)", slab.tell(1), 114);
         due("trace()", slab.trace(), (1 * 31 + 2) * 31 + 1);
-        due("tell(2) of another object", withOneOfEachKind().tell(2), 130);
-        IceSlab other = withOneOfEachKind();
+        due("tell(2) of another object", Checks.withOneOfEachKind().tell(2), 130);
+        IceSlab other = Checks.withOneOfEachKind();
         other.tell(2);
         due("trace() of it", other.trace(), ((3 * 31 + 2) * 31 + 1) * 31 + 1);
         due("tell(3)", other.tell(3), -1);
@@ -178,7 +170,7 @@ public final class SheetsTest {
     }
 
     private static void greet() {
-        IceSlab slab = withOneOfEachKind();
+        IceSlab slab = Checks.withOneOfEachKind();
         due("greet(1)", slab.greet(1), 1);
         due("trace()", slab.trace(), 4);
         due("greet(2)", slab.greet(2), 60);
@@ -190,7 +182,7 @@ public final class SheetsTest {
     }
 
     private static void as() {
-        IceSlab slab = withOneOfEachKind();
+        IceSlab slab = Checks.withOneOfEachKind();
         for (int x = 0; x < 3; x++) {
             for (int kind = 0; kind < 3; kind++) {
                 due("as(" + x + ", " + kind + ")", slab.as(x, kind), kind <= x ? 1 : -12);
@@ -206,7 +198,7 @@ public final class SheetsTest {
     }
 
     private static void traceWraps() {
-        IceSlab slab = withOneOfEachKind();
+        IceSlab slab = Checks.withOneOfEachKind();
         int trace = 0;
         for (int i = 0; i < 20; i++) {
             slab.greet(2);
