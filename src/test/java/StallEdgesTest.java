@@ -18,6 +18,8 @@ public final class StallEdgesTest {
         newHasNoSorts();
         newHasNoHours();
         newSheetsHaveNothing();
+        newBesideAnother();
+        lastOfAllCalls();
 
         hoursFromOneToEight();
         hoursFromZeroOn();
@@ -121,6 +123,36 @@ public final class StallEdgesTest {
             due("new: put(" + k + ", 0, 0)", new IceSlab().put(k, 0, 0), -11);
             due("new: stall of sheet " + k, new IceSlab().stall(k, 0, 0, 0), -11);
         }
+    }
+
+    /** "A new object": so also where another one has all. */
+    private static void newBesideAnother() {
+        IceSlab busy = Refused.busy();
+        long[] before = Refused.seen(Refused.busy());
+        IceSlab slab = new IceSlab();
+        for (int what = 0; what < 5; what++) {
+            due("many(" + what + ") beside another", slab.many(what), 0);
+        }
+        due("trace() beside another", slab.trace(), 0);
+        due("lose(1) beside another", slab.lose(1), 0);
+        Checks.tellText(slab, "h1;f9993");
+        slab.buyer(0, 0, 40, 0);
+        slab.greet(0);
+        slab.day(3);
+        long[] behind = Refused.seen(busy);
+        for (int i = 0; i < before.length; i++) {
+            due("the other one, answer " + i, behind[i], before[i]);
+        }
+    }
+
+    /** "at most 512 calls after it has been made": the last of them is answered as any. */
+    private static void lastOfAllCalls() {
+        IceSlab slab = new IceSlab();
+        slab.sheet(0, 2, 60);
+        for (int call = 2; call < 512; call++) {
+            due("call " + call, slab.put(0, call % 60, call), 1);
+        }
+        due("call 512", slab.cell(0, 511 % 60, 2), 511);
     }
 
     // ---- Promise 2: the TEXT
