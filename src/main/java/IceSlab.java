@@ -8,6 +8,8 @@ public final class IceSlab {
     private static final int MOST_SORTS = 4, MOST_HOURS = 8, MOST_BUYERS = 10;
     private static final int MOST_FISH = 9, FRESHEST = 9, FIRST_PRICE = 9, DEAREST = 30, MOST_PAID = 40, MOST_SOUP = 9;
     private static final int MOST_WEIGHTS = 20, MOST_FETCHED = 20, MOST_MONEY = 99, MOST_SOLD = 99;
+    /** Below each PROFIT: no stall costs more than 4 times 9 FISH at 9 each. */
+    private static final int BELOW_ALL_PROFITS = -1000;
 
     private final Day today;
     private final Search search;
@@ -872,7 +874,7 @@ public final class IceSlab {
 
         void findPrice(Day today, int s, int t) {
             trial.become(today);
-            profit = Integer.MIN_VALUE;
+            profit = BELOW_ALL_PROFITS;
             for (int price = 0; price <= DEAREST; price++) {
                 trial.stall.prices[s][t] = price;
                 trial.goThrough();
@@ -908,7 +910,7 @@ public final class IceSlab {
          */
         void findFetched(Day today) {
             trial.become(today);
-            profit = Integer.MIN_VALUE;
+            profit = BELOW_ALL_PROFITS;
             for (int s = 0; s < MOST_SORTS; s++) {
                 trial.stall.fish[s] = 0;
                 ranOut[s] = false;

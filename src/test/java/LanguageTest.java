@@ -26,7 +26,8 @@ public final class LanguageTest {
         + "takeOff(int):int tell(int):int trace():int worth(int,int,int):int write(int,int,int):int";
     private static final String CONSTANTS = "FULL LOST NONE OUTSIDE STATE UNKNOWN";
     private static final String[] BANNED = {"throw", "throws", "try", "catch", "synchronized", "assert", "yield", "import",
-        "static \\{", "->", "::", "instanceof", "Exact\\(", "@Override", "volatile", "transient", "native"};
+        "static \\{", "->", "::", "instanceof", "Exact\\(", "@Override", "volatile", "transient", "native",
+        "Integer\\.[A-Z]", "Long\\.(?!MIN_VALUE;)[A-Z]"};
     private static final Set<String> KNOWN = new TreeSet<>(List.of("Math", "System", "Integer", "Long"));
 
     private static final Checks CHECKS = new Checks();
